@@ -1025,20 +1025,23 @@ public final class MaySheep {
             return Arrays.copyOf(steps, stepCount);
         }
 
+        /** A test and its parts at once: an or waits until the part behind it has been written. */
         private void readTest(int depth) {
-            readPart(depth);
-            for (int n = 0; n < Tape.LONGEST && tape.fault == 0 && tape.pass(Tape.OR); n++) {
-                readPart(depth);
-                write(Rule.OR, 0);
-            }
-        }
-
-        private void readPart(int depth) {
+            int waiting = NONE;
             readFact(depth);
-            for (int n = 0; n < Tape.LONGEST && tape.fault == 0 && tape.pass(Tape.AND); n++) {
-                readFact(depth);
-                write(Rule.AND, 0);
+            for (int n = 0; n < Tape.LONGEST && tape.fault == 0; n++) {
+                if (tape.pass(Tape.AND)) {
+                    readFact(depth);
+                    write(Rule.AND, 0);
+                } else if (tape.pass(Tape.OR)) {
+                    write(waiting, 0);
+                    waiting = Rule.OR;
+                    readFact(depth);
+                } else {
+                    break;
+                }
             }
+            write(waiting, 0);
         }
 
         private void readFact(int depth) {

@@ -2,6 +2,8 @@
 public final class RandomRunsTest {
     private static final int RUNS = 700;
     private static final int CALLS = 512;
+    private static final int[] FAR =
+        {-2147483648, -2147483647, -100000, -3, -2, -1, 8, 32, 64, 256, 65536, 2147483646, 2147483647};
 
     private final Texts draw;
     private final MaySheep x = new MaySheep();
@@ -44,6 +46,9 @@ public final class RandomRunsTest {
 
     /** A number that is most often within the limits. */
     private int about(int low, int high) {
+        if (draw.oneIn(60)) {
+            return FAR[draw.upTo(FAR.length)];
+        }
         return draw.oneIn(12) ? low - 2 + draw.upTo(high - low + 5) : low + draw.upTo(high - low + 1);
     }
 
@@ -72,8 +77,8 @@ public final class RandomRunsTest {
         int n = about(1, 20);
         int what = about(0, 1);
         switch (draw.upTo(38)) {
-            case 0 -> due("force " + (b - 1), x.force(b - 1), m.force(b - 1));
-            case 1, 2, 3, 4 -> due("may", x.may(), m.may());
+            case 0, 1 -> force(about(-1, m.count(4)));
+            case 2, 3, 4 -> due("may", x.may(), m.may());
             case 5, 6 -> due("salt " + b + " " + a + " " + n, x.salt(b, a, n), m.salt(b, a, n));
             case 7, 8 -> teach(a, about(-1, 7));
             case 9, 10 -> due("lead " + a + " " + b, x.lead(a, b), m.lead(a, b));
@@ -99,6 +104,10 @@ public final class RandomRunsTest {
             case 36 -> all();
             default -> texts();
         }
+    }
+
+    private void force(int rule) {
+        due("force " + rule, x.force(rule), m.force(rule));
     }
 
     private void teach(int a, int other) {
@@ -172,6 +181,7 @@ public final class RandomRunsTest {
         for (int n = draw.upTo(6); n > 0; n--) {
             rule(draw.rule());
         }
+        force(m.count(4) - 1);
         while (calls < CALLS - 60 && wrong == 0) {
             any();
         }

@@ -87,7 +87,27 @@ final class Texts {
         return sum() + gap() + SIGNS[upTo(5)] + gap() + sum();
     }
 
+    /** A rule by which salt, flocks and whose a sheep is matter. */
+    private String livelyRule() {
+        String[] sums = {"likes", "salt", "salt*2", "flock", "mine*3", "mine*20", "coins/50", "coins/200%7", "led*man",
+            "wool%5", "hands", "year*man%5", "[likes", "likes*2", "grass-flock", "year%3*man"};
+        String[] tests = {"flock<hands", "flock<grass and not mine=1", "mine=1", "salt>9 or coins>100", "led>1",
+            "[year%4=man or flock=0] and likes>=3", "not [flock>=hands or salt<5]", "coins<flock*90", "sheep%2=man%2"};
+        StringBuilder s = new StringBuilder();
+        for (int n = upTo(3); n >= 0; n--) {
+            s.append("go ");
+            for (int k = 1 + upTo(3); k >= 0; k--) {
+                s.append(sums[upTo(sums.length)].replace("[", "3*")).append(k == 0 ? "" : oneIn(4) ? "-" : "+");
+            }
+            s.append(n == 0 && oneIn(2) ? "" : " if " + tests[upTo(tests.length)]).append(n == 0 ? "" : ";");
+        }
+        return s.toString();
+    }
+
     String rule() {
+        if (!oneIn(3)) {
+            return livelyRule();
+        }
         StringBuilder s = new StringBuilder();
         int clauses = 1 + upTo(oneIn(6) ? 14 : 4);
         for (int i = 0; i < clauses; i++) {
