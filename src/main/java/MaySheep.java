@@ -23,13 +23,13 @@ public final class MaySheep {
     private final World world = new World();
     private final World[] images = new World[MOST_IMAGES];
     private final Hill draft = new Hill();
-    private final RuleReader ruleReader = new RuleReader(tape);
+    private final RuleReader ruleReader = new RuleReader();
     private final Rule[] rules = new Rule[MOST_RULES];
     private int ruleCount = 0;
     private final Acts acts = new Acts();
     private final Leaders leaders = new Leaders();
     private final Mays mays = new Mays();
-    private final Asked asked = new Asked(mays);
+    private final Asked asked = new Asked();
 
     public MaySheep() {
     }
@@ -69,7 +69,7 @@ public final class MaySheep {
         if (ruleCount >= MOST_RULES) {
             return NONE;
         }
-        ruleReader.read();
+        ruleReader.read(tape);
         if (tape.fault != 0) {
             return NO - tape.fault;
         }
@@ -652,8 +652,8 @@ public final class MaySheep {
         }
 
         private boolean isTooMany(int kind, int n) {
-            boolean isMisled = (kind == Tape.HILL) != (n == 0);
-            return n >= MOST_CLAUSES || isMisled
+            boolean isOutOfOrder = (kind == Tape.HILL) != (n == 0);
+            return n >= MOST_CLAUSES || isOutOfOrder
                 || kind == Tape.SHEEP && sheepCount >= MOST_SHEEP
                 || kind == Tape.MAN && menCount >= MOST_MEN;
         }
@@ -991,13 +991,8 @@ public final class MaySheep {
         private final int[] steps = new int[Tape.LONGEST];
         private int stepCount = 0;
         private int valueCount = 0;
-        private final Tape tape;
 
-        RuleReader(Tape tape) {
-            this.tape = tape;
-        }
-
-        void read() {
+        void read(Tape tape) {
             stepCount = 0;
             valueCount = 0;
             tape.beginReading();
@@ -1008,9 +1003,9 @@ public final class MaySheep {
                 } else if (n >= MOST_CLAUSES) {
                     tape.blame(place, Tape.TOO_MANY_CLAUSES);
                 }
-                readSum();
+                readSum(tape);
                 if (tape.fault == 0 && tape.pass(Tape.IF)) {
-                    readTest(0);
+                    readTest(tape, 0);
                     write(Rule.GO_IF, 0);
                 } else {
                     write(Rule.GO, 0);
@@ -1026,17 +1021,17 @@ public final class MaySheep {
         }
 
         /** A test and its parts at once: an or waits until the part behind it has been written. */
-        private void readTest(int depth) {
+        private void readTest(Tape tape, int depth) {
             int waiting = NONE;
-            readFact(depth);
+            readFact(tape, depth);
             for (int n = 0; n < Tape.LONGEST && tape.fault == 0; n++) {
                 if (tape.pass(Tape.AND)) {
-                    readFact(depth);
+                    readFact(tape, depth);
                     write(Rule.AND, 0);
                 } else if (tape.pass(Tape.OR)) {
                     write(waiting, 0);
                     waiting = Rule.OR;
-                    readFact(depth);
+                    readFact(tape, depth);
                 } else {
                     break;
                 }
@@ -1044,30 +1039,30 @@ public final class MaySheep {
             write(waiting, 0);
         }
 
-        private void readFact(int depth) {
+        private void readFact(Tape tape, int depth) {
             int place = tape.nextPlace();
             boolean isNot = tape.pass(Tape.NOT);
             boolean isOpened = !isNot && tape.pass('[');
             if ((isNot || isOpened) && depth >= DEEPEST) {
                 tape.blame(place, Tape.TOO_DEEP);
             } else if (isNot) {
-                readFact(depth + 1);
+                readFact(tape, depth + 1);
                 write(Rule.NOT, 0);
             } else if (isOpened) {
-                readTest(depth + 1);
+                readTest(tape, depth + 1);
                 if (tape.fault == 0 && !tape.pass(']')) {
                     tape.blame(tape.nextPlace(), Tape.MISPLACED);
                 }
             } else {
-                readSum();
-                int step = passComparing();
-                readSum();
+                readSum(tape);
+                int step = passComparing(tape);
+                readSum(tape);
                 write(step, 0);
             }
         }
 
         /** The step of the sign that compares, which must come next. */
-        private int passComparing() {
+        private int passComparing(Tape tape) {
             int place = tape.nextPlace();
             int kind = tape.nextKind();
             int step = comparingStep(kind);
@@ -1091,9 +1086,9 @@ public final class MaySheep {
         }
 
         /** A sum and its terms at once: a + or - waits until the term behind it has been written. */
-        private void readSum() {
+        private void readSum(Tape tape) {
             int waiting = NONE;
-            readValue();
+            readValue(tape);
             for (int n = 0; n < Tape.LONGEST && tape.fault == 0; n++) {
                 int kind = tape.nextKind();
                 int step = joiningStep(kind);
@@ -1103,9 +1098,9 @@ public final class MaySheep {
                 if (isOfTerms(step)) {
                     write(waiting, 0);
                     waiting = step;
-                    readValue();
+                    readValue(tape);
                 } else {
-                    readValue();
+                    readValue(tape);
                     write(step, 0);
                 }
             }
@@ -1127,7 +1122,7 @@ public final class MaySheep {
             }
         }
 
-        private void readValue() {
+        private void readValue(Tape tape) {
             int place = tape.nextPlace();
             int kind = tape.nextKind();
             boolean isWord = kind >= Tape.WORD && kind <= Tape.LAST_VALUE_WORD;
@@ -1147,7 +1142,7 @@ public final class MaySheep {
         }
 
         private void write(int step, int with) {
-            if (tape.fault == 0 && step != NONE && stepCount < steps.length) {
+            if (step != NONE && stepCount < steps.length) {
                 steps[stepCount] = step | with << Rule.STEP_BITS;
                 stepCount++;
             }
@@ -1178,15 +1173,12 @@ public final class MaySheep {
 
         private static int leaderOf(int sheep, int[] follows) {
             int at = sheep;
-            for (int n = 0; n < MOST_SHEEP; n++) {
-                if (follows[at] == NONE) {
-                    return at;
-                }
+            for (int n = 0; n < MOST_SHEEP && follows[at] != NONE; n++) {
                 at = follows[at];
             }
             // So many steps without an end lead into a ring, and as many more go all around it.
             int least = at;
-            for (int n = 0; n < MOST_SHEEP; n++) {
+            for (int n = 0; n < MOST_SHEEP && follows[at] != NONE; n++) {
                 at = follows[at];
                 least = Math.min(least, at);
             }
@@ -1198,11 +1190,10 @@ public final class MaySheep {
     private static final class Mays {
         final State state = new State();
         final Leaders leaders = new Leaders();
-        /** The men's salt, which may be another one than the hill's. */
-        final int[] salt = new int[MOST_MEN];
+        /** The hill is a copy too, so that men can be tried out with other salt. */
+        final Hill hill = new Hill();
         /** Leaders that choose nobody at the next May. */
         final boolean[] frightened = new boolean[MOST_SHEEP];
-        private Hill hill = null;
         private Rule rule = null;
         private final int[] flock = new int[MOST_MEN];
         private final int[] chosen = new int[MOST_SHEEP];
@@ -1210,10 +1201,9 @@ public final class MaySheep {
         private final long[] stack = new long[Rule.STACK_SIZE];
 
         void begin(Hill ofHill, State from, Rule byRule) {
-            hill = ofHill;
+            hill.take(ofHill);
             rule = byRule;
             state.take(from);
-            System.arraycopy(hill.salt, 0, salt, 0, MOST_MEN);
             for (int sheep = 0; sheep < MOST_SHEEP; sheep++) {
                 frightened[sheep] = false;
             }
@@ -1272,7 +1262,7 @@ public final class MaySheep {
             words[Rule.SHEEP] = sheep;
             words[Rule.MAN] = man;
             words[Rule.LIKES] = state.likes[sheep][man];
-            words[Rule.SALT] = salt[man];
+            words[Rule.SALT] = hill.salt[man];
             words[Rule.HANDS] = hill.hands[man];
             words[Rule.FLOCK] = flock[man];
             words[Rule.MINE] = state.whose[sheep] == man ? 1 : 0;
@@ -1301,7 +1291,7 @@ public final class MaySheep {
                 return;
             }
             int tooMany = many - hill.hands[man];
-            int more = tooMany > 0 ? -tooMany : salt[man] / many;
+            int more = tooMany > 0 ? -tooMany : hill.salt[man] / many;
             for (int sheep = 0; sheep < hill.sheepCount; sheep++) {
                 if (state.whose[sheep] == man) {
                     state.like(sheep, man, more);
@@ -1321,7 +1311,7 @@ public final class MaySheep {
         private static final long DRAW_SHARE = 65536L;
 
         final int[] answers = new int[3];
-        private final Mays mays;
+        private final Mays mays = new Mays();
         /** How many sheep a man has by each leader, without and with what is asked. */
         private final int[] had = new int[MOST_SHEEP];
         private final int[] gained = new int[MOST_SHEEP];
@@ -1331,10 +1321,6 @@ public final class MaySheep {
         private final int[] whoseThen = new int[LAST_SETTLED + 1];
         private final int[] whoseByRule = new int[MOST_RULES + 1];
         private final int[] alike = new int[MOST_MEN + 1];
-
-        Asked(Mays mays) {
-            this.mays = mays;
-        }
 
         private void answer(int first, int second, int third) {
             answers[0] = first;
@@ -1422,8 +1408,8 @@ public final class MaySheep {
             for (int first = 0; first < SALTS; first++) {
                 for (int second = 0; second < SALTS; second++) {
                     mays.begin(world.hill, world.state, rule);
-                    mays.salt[one] = first * SALT_STEP;
-                    mays.salt[other] = second * SALT_STEP;
+                    mays.hill.salt[one] = first * SALT_STEP;
+                    mays.hill.salt[other] = second * SALT_STEP;
                     mays.goOn(n);
                     int two = first * SALTS + second;
                     firstHas[two] = mays.state.coins[one] - n * first * SALT_STEP;

@@ -49,6 +49,11 @@ public final class FaultsTest {
         hillAt("|;hill 1 2", 0);
         hillAt("|hills 1 2", 0);
         hillAt("|hil 1 2", 0);
+        hillAt("|hillz 1 2", 0);
+        hillAt("hill|` 1 2", 0);
+        hillAt("hill|{ 1 2", 0);
+        hillAt("hill 1|/2", 0);
+        hillAt("hill 1|:2", 0);
         hillAt("|Hill 1 2", 0);
         hillAt("|go 1", 0);
         hillAt("|7", 0);
@@ -123,6 +128,8 @@ public final class FaultsTest {
             + ";follows0 1".repeat(13);
         checks.due("40 clauses", most.split(";").length, 40);
         hill(most, SOUND, 0);
+        hillAt(most + ";|likes", 4);
+        hillAt(most + ";  |follows", 4);
         hillAt(most + ";|man 1 1", 4);
         hillAt(most + ";|hill", 4);
         hillAt(most + ";|hil", 0);
@@ -254,6 +261,7 @@ public final class FaultsTest {
         rule("go " + " ".repeat(396) + "1", SOUND, 0);
         rule("go" + " ".repeat(398), 400, 0);
         rule("g".repeat(400), 0, 0);
+        rule("go 1 if 1" + " ".repeat(390) + "<", 400, 0);
         rule("go " + "1".repeat(397), 3, 1);
         rule("go " + "+".repeat(397), 3, 0);
         rule("go 1 if " + "[".repeat(392), 18, 2);

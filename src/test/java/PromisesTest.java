@@ -231,6 +231,20 @@ public final class PromisesTest {
         due("15: most coins ahead", x.ahead(0, 1, 1), 99999);
     }
 
+    /** More calls than are promised, but no other way leads to that year. */
+    private void lastYear() {
+        MaySheep x = with("hill 1 1;sheep 1;man 1 0", "go 1 if year>=1000");
+        for (int n = 1; n <= 999; n++) {
+            x.may();
+        }
+        due("10: year 999", x.count(6), 999);
+        due("10: no May in it", x.may(), NONE);
+        due("10: nothing happens", x.count(6), 999);
+        due("15: Mays that are asked go on", x.ahead(0, 1, 0), NONE);
+        due("15: beyond", x.ahead(0, 2, 0), 0);
+        due("21: beyond", x.settled(0), 999);
+    }
+
     private void words() {
         String[] words = {"sheep=1", "man=1", "likes=23", "salt=6", "hands=3", "flock=2", "mine=1", "led=2", "wool=4",
             "coins=8", "grass=3", "year=1"};
@@ -269,6 +283,9 @@ public final class PromisesTest {
             "0-99999*99999*99999*15000/3>0"};
         String[] notSo = {"1<1", "1>1", "2<=1", "1>=2", "1=2", "not 1=1", "[1=1 or 1=1] and 1=2", "1=1 and 1=2",
             "not 1=1 or 1=2", "not [1=2 or 1=1]", "1=2 or 1=3", "1=1 and 1=2 or 1=3 and 1=1", "0-7%4=1"};
+        String deep = "1=2 or 1=1 and [".repeat(9) + "1=1" + "]".repeat(9);
+        due("5: so, deep", is(deep) ? 1 : 0, 1);
+        due("5: not so, deep", is(deep.replace("1=1]", "1=2]")) ? 1 : 0, 0);
         for (String test : so) {
             due("5: so " + test, is(test) ? 1 : 0, 1);
         }
@@ -490,6 +507,12 @@ public final class PromisesTest {
         // The other one outbids by 5 until 20, against which nothing is best, against which 5 is best.
         row("19: no rest", rests(with(hill, "go salt"), 0, 1, 1), 0, -2, -2);
         row("19: not worth it", rests(with("hill 1 1;sheep 1;man 1 7;man 1 8", "go salt"), 0, 1, 1), 1, 0, 0);
+        // The sheep brings just what 5 of salt cost: nobody, the one or the other one gives it.
+        row("19: three rests", rests(with("hill 1 9;sheep 5;man 1 7;man 1 8", "go salt"), 0, 1, 1), 3, 0, 0);
+        row("19: three rests", rests(with("hill 1 9;sheep 5;man 1 7;man 1 8", "go salt"), 1, 0, 1), 3, 0, 0);
+        row("19: not to be outbid", rests(with("hill 2 9;sheep 5;man 1 7;man 1 8", "go salt"), 0, 1, 1), 1, 5, 0);
+        row("19: not to be outbid", rests(with("hill 2 9;sheep 5;man 1 7;man 1 8", "go salt"), 1, 0, 1), 1, 0, 5);
+        row("19: outbid", rests(with("hill 3 9;sheep 5;man 1 7;man 1 8", "go salt"), 0, 1, 1), 0, -2, -2);
         String ten = "go 1 if man=0 and salt>=10;go 1 if man=1 and salt>=5";
         MaySheep x = with(hill, ten);
         row("19: ten", rests(x, 0, 1, 1), 1, 10, 0);
@@ -751,6 +774,7 @@ public final class PromisesTest {
         t.sheepManLikes();
         t.leaders();
         t.mays();
+        t.lastYear();
         t.words();
         t.sums();
         t.choices();
