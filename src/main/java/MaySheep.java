@@ -56,12 +56,12 @@ public final class MaySheep {
 
     public int hill() {
         draft.read(tape);
+        tape.length = 0;
         if (tape.fault != 0) {
             return NO - tape.fault;
         }
         world.tell(draft);
         acts.forget();
-        tape.length = 0;
         return world.hill.sheepCount;
     }
 
@@ -70,12 +70,12 @@ public final class MaySheep {
             return NONE;
         }
         ruleReader.read(tape);
+        tape.length = 0;
         if (tape.fault != 0) {
             return NO - tape.fault;
         }
         rules[ruleCount] = new Rule(ruleReader.written());
         ruleCount++;
-        tape.length = 0;
         return ruleCount - 1;
     }
 

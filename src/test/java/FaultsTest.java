@@ -16,9 +16,9 @@ public final class FaultsTest {
             checks.holds("hill " + text + " is sound: " + got, got >= 0);
         } else {
             checks.due("hill " + text, got, told(place, kind));
-            checks.due("the tape stays", x.count(13), text.length());
             checks.due("no hill", x.may(), -1);
         }
+        checks.due("the tape is empty", x.count(13), 0);
     }
 
     private void rule(String text, int place, int kind) {
@@ -26,6 +26,7 @@ public final class FaultsTest {
         int got = Feeding.rule(x, text);
         checks.due("rule " + text, got, place == SOUND ? 0 : told(place, kind));
         checks.due("rules", x.count(4), place == SOUND ? 1 : 0);
+        checks.due("the tape is empty", x.count(13), 0);
     }
 
     /** The fault is where the bar stands, which is taken out. */

@@ -107,6 +107,7 @@ public final class PromisesTest {
         due("2: grass", x.count(1), 20);
         due("2: high bytes", x.feed(0x68696c6c, 0x20312032, 0xbba0ff80, -1, -1), 20);
         due("2: a high byte is no sign", x.hill(), -2 - (1 + 8 * 8));
+        due("2: behind a tape that is empty", x.feed(0x68696c6c, 0x20312032, 0xbba0ff80, -1, -1), 20);
         due("3: the rest goes", x.end(8), 8);
         due("3: and is a hill", x.hill(), 0);
     }
@@ -121,7 +122,9 @@ public final class PromisesTest {
         x.note(1, 0, 1);
         Feeding.put(x, "hill 1 1;sheep 0");
         due("4: fault", x.hill(), -2 - (1 + 8 * 15 + 1));
-        row("4: all stays", counts(x), 2, 3, 4, 2, 1, 0, 1, 0, 7, 24, 1, 1, 77, 16);
+        row("4: all but the tape stays", counts(x), 2, 3, 4, 2, 1, 0, 1, 0, 7, 24, 1, 1, 77, 0);
+        due("4: what is undone stays", x.undo(), 0);
+        row("4: and is undone", counts(x), 2, 3, 4, 2, 1, 0, 0, 15, 7, 0, 1, 0, 77, 0);
         due("4: once more", Feeding.hill(x, "hill 5 6;sheep 9;sheep 8"), 2);
         row("4: a new hill", counts(x), 5, 6, 2, 0, 1, 0, 0, 3, 3, 0, 0, 0, 77, 0);
         due("4: nothing to be undone", x.undo(), NONE);
@@ -139,7 +142,8 @@ public final class PromisesTest {
         MaySheep x = told();
         due("5: a fault", Feeding.rule(x, "go"), -2 - (1 + 8 * 2));
         due("5: none came", x.count(4), 0);
-        due("5: the tape stays", x.count(13), 2);
+        due("5: tape is empty at a fault", x.count(13), 0);
+        due("5: so it has what comes alone", x.feed(0x676f2031, 0x20202020, 0x20202020, 0x20202020, 0x20202020), 20);
         for (int n = 0; n < 6; n++) {
             due("6: not yet", x.force(n), -2);
             due("5: a rule", Feeding.rule(x, "go " + n), n);
@@ -149,6 +153,7 @@ public final class PromisesTest {
         due("5: a seventh", Feeding.rule(x, "go 7"), NONE);
         due("5: nothing happens", x.count(13), 4);
         due("5: a seventh that is none", Feeding.rule(x, "so"), NONE);
+        due("5: nothing happens to its tape", x.count(13), 2);
         due("5: six", x.count(4), 6);
         due("6: no seventh", x.force(6), -2);
         due("6: none such", x.force(-2), -2);

@@ -37,11 +37,13 @@ public final class RandomRunsTest {
     private void hill(String text) {
         put(text);
         due("hill " + text, x.hill(), m.hill());
+        due("tape", x.count(13), m.count(13));
     }
 
     private void rule(String text) {
         put(text);
         due("rule " + text, x.rule(), m.rule());
+        due("tape", x.count(13), m.count(13));
     }
 
     /** A number that is most often within the limits. */

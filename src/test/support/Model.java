@@ -452,6 +452,7 @@ final class Model {
 
     int hill() {
         text = tape.toString();
+        tape.setLength(0);
         at = 0;
         try {
             begin = readHill();
@@ -461,7 +462,6 @@ final class Model {
         now = begin.copy();
         notes = new ArrayList<>();
         acts.clear();
-        tape.setLength(0);
         return now.sheep();
     }
 
@@ -470,13 +470,13 @@ final class Model {
             return -1;
         }
         text = tape.toString();
+        tape.setLength(0);
         at = 0;
         try {
             rules.add(readRule());
         } catch (Fault f) {
             return -2 - f.number;
         }
-        tape.setLength(0);
         return rules.size() - 1;
     }
 
