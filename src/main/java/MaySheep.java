@@ -1560,15 +1560,13 @@ public final class MaySheep {
             return most;
         }
 
-        /** Whose all sheep are behind the n-th May from the text on; NONE if a note is not so by this rule. */
+        /** Whose all sheep are behind May n from the text on, the first being May 0; NONE if a note is not so. */
         private int whoseBehind(World world, Rule rule, int n) {
             int last = Math.max(n, world.notes.lastMay());
             int all = 0;
             mays.begin(world.hill, world.hill.start, rule);
             for (int behind = 0; behind <= last; behind++) {
-                if (behind > 0) {
-                    mays.goOn(1);
-                }
+                mays.goOn(1);
                 if (!world.notes.areSo(behind, mays.state)) {
                     return NONE;
                 }

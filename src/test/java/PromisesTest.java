@@ -635,21 +635,20 @@ public final class PromisesTest {
         MaySheep x = with(HILL, "go man", "go likes", "go 5-man");
         due("26: all", x.ruled(0), 4);
         due("26: none first", x.ruled(1), NONE);
-        row("27: look", new int[] {x.look(1, 0), x.look(1, 1)}, 0, 3);
+        row("27: look", new int[] {x.look(0, 0), x.look(0, 1)}, 0, 3);
         x.may();
         x.teach(0, 1);
-        due("25: note", x.note(1, 0, 0), 1);
+        due("25: note", x.note(0, 0, 0), 1);
         due("26: from the begin", x.ruled(0), 3);
         due("26: none first", x.ruled(1), NONE);
-        row("27: look", new int[] {x.look(1, 0), x.look(1, 1)}, 1, 2);
-        row("27: all alike at first", new int[] {x.look(0, 0), x.look(0, 1)}, 0, 3);
-        due("25: nobody's", x.note(0, 2, NONE), 2);
+        row("27: look", new int[] {x.look(0, 0), x.look(0, 1)}, 1, 2);
+        due("25: note", x.note(1, 2, 0), 2);
         due("26: as before", x.ruled(0), 3);
-        due("25: note", x.note(1, 1, 0), 3);
+        due("25: note", x.note(0, 1, 0), 3);
         due("26: one", x.ruled(0), 1);
         due("26: the last", x.ruled(1), 2);
         row("27: look", new int[] {x.look(40, 0), x.look(40, 1)}, 0, 1);
-        due("25: note", x.note(0, 2, 0), 4);
+        due("25: nobody's", x.note(0, 2, NONE), 4);
         due("26: no such", x.ruled(0), 0);
         due("26: no such", x.ruled(1), -2);
         row("27: no such", new int[] {x.look(1, 0), x.look(1, 1)}, -2, -2);
@@ -661,6 +660,32 @@ public final class PromisesTest {
         due("27: no -1", x.look(-1, 0), NONE);
         due("27: no sheep", with("hill 1 1").look(1, 0), -2);
         due("26: no sheep", with("hill 1 1").ruled(0), 1);
+    }
+
+    /** Mays are numbered from 0 on, as years are: behind May 40 a sheep is whose it became in year 40. */
+    private void notedMays() {
+        MaySheep x = with("hill 1 9;sheep 1;sheep 1;man 9 0", "go 1 if year=0", "go 1 if year=1", "go 1 if year=40",
+            "go 1 if year=39");
+        row("27: May 0", new int[] {x.look(0, 0), x.look(0, 1)}, 0, 4);
+        row("27: May 2", new int[] {x.look(2, 0), x.look(2, 1)}, 0, 5);
+        x.may();
+        x.note(0, 0, 0);
+        row("26: behind May 0", new int[] {x.ruled(0), x.ruled(1)}, 1, 0);
+        x.note(1, 0, NONE);
+        row("26: behind May 1", new int[] {x.ruled(0), x.ruled(1)}, 1, 0);
+        x.note(NONE, 0, 0);
+        x.note(1, 0, 0);
+        row("26: behind May 1 alone", new int[] {x.ruled(0), x.ruled(1)}, 1, 1);
+        x.note(NONE, 0, 0);
+        x.note(40, 1, 0);
+        row("26: behind May 40", new int[] {x.ruled(0), x.ruled(1)}, 1, 2);
+        row("27: so by one", new int[] {x.look(40, 0), x.look(40, 1)}, 0, 1);
+        x.note(NONE, 0, 0);
+        x.note(39, 1, 0);
+        row("26: behind May 39", new int[] {x.ruled(0), x.ruled(1)}, 1, 3);
+        x = with("hill 1 9;sheep 1;sheep 1;man 9 0", "go 1 if [year=40 and sheep=1]");
+        row("27: May 39", new int[] {x.look(39, 0), x.look(39, 1)}, 0, 2);
+        row("27: May 40", new int[] {x.look(40, 0), x.look(40, 1)}, 1, 1);
     }
 
     private void noteLimits() {
@@ -798,6 +823,7 @@ public final class PromisesTest {
         t.worth();
         t.notes();
         t.noteLimits();
+        t.notedMays();
         t.draws();
         t.count();
         t.images();

@@ -805,12 +805,17 @@ final class Model {
         return notes.size();
     }
 
+    /** Mays are numbered from 0 on: behind the one of number 0 there has been one. */
+    private int whoseBehind(int n, int rule, int sheep) {
+        return begin.after(n + 1, ruleOf(rule)).whose.get(sheep);
+    }
+
     private List<Integer> so() {
         List<Integer> all = new ArrayList<>();
         for (int r = -1; r < rules.size(); r++) {
             boolean fits = true;
             for (int[] note : notes) {
-                fits &= begin.after(note[0], ruleOf(r)).whose.get(note[1]) == note[2];
+                fits &= whoseBehind(note[0], r, note[1]) == note[2];
             }
             if (fits) {
                 all.add(r);
@@ -839,7 +844,7 @@ final class Model {
         for (int s = 0; s < now.sheep(); s++) {
             Map<Integer, Integer> byMan = new HashMap<>();
             for (int r : all) {
-                byMan.merge(begin.after(n, ruleOf(r)).whose.get(s), 1, Integer::sum);
+                byMan.merge(whoseBehind(n, r, s), 1, Integer::sum);
             }
             int most = java.util.Collections.max(byMan.values());
             if (most < best[1]) {
