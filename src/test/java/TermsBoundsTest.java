@@ -1,5 +1,6 @@
 import java.io.IOException;
 import java.math.BigInteger;
+import java.util.Arrays;
 import java.util.List;
 import java.util.function.ToIntFunction;
 
@@ -153,6 +154,8 @@ public final class TermsBoundsTest {
                 range(hill + ";follows " + last + " #", 0, last - 1, x -> x.sheep(x.count(2) - 1, 2));
                 hillFails(hill + ";follows " + last + " |" + many, 1);
             }
+            hillFails("hill 1 2;sheep 1;sheep 1;follows |000000 1", 1);
+            hillFails("hill 1 2;sheep 1;sheep 1;follows |99999 1", 1);
             hillFails("hill 1 2;follows |0 1", 1);
             hillFails("hill 1 2;sheep 1;follows 0 |0", 1);
             hillFails("hill 1 2;sheep 1;follows 0 |1", 1);
@@ -194,8 +197,24 @@ public final class TermsBoundsTest {
     }
 
     private void isSo(String test) {
-        checks.holds(test, is(test));
-        checks.holds("not [" + test + "]", !is("not [" + test + "]"));
+        comesOut(test, true);
+    }
+
+    /** Alone, and within what is made of it. */
+    private void comesOut(String test, boolean want) {
+        due(test, is(test) ? 1 : 0, want ? 1 : 0);
+        due("not [" + test + "]", is("not [" + test + "]") ? 1 : 0, want ? 0 : 1);
+        due(test + " and", is(test + " and 1=1") ? 1 : 0, want ? 1 : 0);
+        due(test + " or", is(test + " or 1=2") ? 1 : 0, want ? 1 : 0);
+    }
+
+    /** A test of four facts, each so by a bit, comes out as told. */
+    private void tells(String test, boolean want, int bits) {
+        String facts = test;
+        for (int i = 0; i < 4; i++) {
+            facts = facts.replace("ABCD".substring(i, i + 1), "1=" + (bits >> i & 1));
+        }
+        due(facts, is(facts) ? 1 : 0, want ? 1 : 0);
     }
 
     private void rules() {
@@ -213,6 +232,54 @@ public final class TermsBoundsTest {
                 due("its number", Feeding.rule(x, "go 1"), n);
             }
             due("no 6", Feeding.rule(x, "go 1"), NONE);
+        });
+        s.says("go SUM [ if TEST ]. TEST: PART { or PART }. PART: FACT { and FACT }.", () -> {
+            for (int bits = 0; bits < 16; bits++) {
+                boolean a = (bits & 1) != 0;
+                boolean b = (bits & 2) != 0;
+                boolean c = (bits & 4) != 0;
+                boolean d = (bits & 8) != 0;
+                tells("A", a, bits);
+                tells("A or B or C or D", a || b || c || d, bits);
+                tells("A and B and C and D", a && b && c && d, bits);
+                tells("A or B and C or D", a || b && c || d, bits);
+                tells("A and B or C and D", a && b || c && d, bits);
+                tells("A and [B or C] and D", a && (b || c) && d, bits);
+                tells("[A or B] and [C or D]", (a || b) && (c || d), bits);
+                tells("not A or B and not C", !a || b && !c, bits);
+                tells("not [A or B] and not not C", !(a || b) && c, bits);
+                tells("A or not [B and not [C or D]]", a || !(b && !(c || d)), bits);
+            }
+            ruleFails("|1", 0);
+            ruleFails("|man", 0);
+            ruleFails("|sheep if 1=1", 0);
+            ruleFails("go 1;|likes", 0);
+            ruleFails("go 1|<=1", 0);
+            ruleFails("go 1|>=1", 0);
+            ruleFails("go |>=1", 0);
+            ruleFails("go |<=", 0);
+        });
+        s.says("SIGN one of < <= = >= >", () -> {
+            String[] signs = {"<", "<=", "=", ">=", ">"};
+            for (int i = 0; i < signs.length; i++) {
+                comesOut("2" + signs[i] + "3", i < 2);
+                comesOut("3" + signs[i] + "3", i > 0 && i < 4);
+                comesOut("4" + signs[i] + "3", i > 2);
+                comesOut("0-1" + signs[i] + "0", i < 2);
+                comesOut("0" + signs[i] + "0-1", i > 2);
+            }
+            ruleFails("go 1 if 1 |2", 0);
+            ruleFails("go 1 if 1 |man", 0);
+            ruleFails("go 1 if 1 |likes=2", 0);
+            ruleFails("go 1 if 1<|>2", 0);
+            ruleFails("go 1 if 1=|<2", 0);
+            ruleFails("go 1 if 1=|=2", 0);
+            ruleFails("go 1 if 1<=|=2", 0);
+            ruleFails("go 1 if 1|!2", 0);
+            ruleFails("go 1 if |<=2", 0);
+            ruleFails("go 1 if 1>=|", 0);
+            hillFails("hill 1|<=2", 0);
+            hillFails("hill 1 2|>=", 0);
         });
         s.says("NUMBER (1 to 5 digits, as far as digits go on)", () -> {
             for (String digits : new String[] {"7", "07", "007", "0007", "00007"}) {
@@ -243,10 +310,20 @@ public final class TermsBoundsTest {
                 ruleFails("go |" + word.substring(0, word.length() - 1), 0);
                 ruleFails("go |" + word.substring(1), 0);
                 ruleFails("go |" + word.toUpperCase(), 0);
+                for (int i = 0; i < word.length(); i++) {
+                    ruleFails("go |" + word.substring(0, i) + "x" + word.substring(i + 1), 0);
+                }
                 ruleFails("go " + word + "|A", 0);
                 ruleFails("go " + word + "|`", 0);
                 ruleFails("go " + word + "|{", 0);
                 ruleFails("go " + word + "|1", 0);
+            }
+            for (String clause : new String[] {"xill 1 1", "hilx 1 1", "xo 1"}) {
+                hillFails("|" + clause, 0);
+                ruleFails("|" + clause, 0);
+            }
+            for (String clause : new String[] {"xheep 1", "sheex 1", "xan 1 1", "maxs 1 1", "xikes 0 0 1", "xollows 0 0"}) {
+                hillFails("hill 1 1;|" + clause, 0);
             }
             ruleFails("|goman", 0);
             ruleFails("go 1 if 1=1 |andman=1", 0);
@@ -394,6 +471,11 @@ public final class TermsBoundsTest {
             ruleFails("go 1+1+1 if 1=1" + " and 1=1".repeat(18) + ";go |1", 3);
             ruleStands("go 1 if 1=1;".repeat(11) + "go 1" + "+1".repeat(15));
             ruleFails("go 1 if 1=1;".repeat(11) + "go 1" + "+1".repeat(15) + "+|1", 3);
+            MaySheep x = new MaySheep();
+            for (int n = 0; n < 6; n++) {
+                due("one too many", Feeding.rule(x, sixty + "+1"), fault(sixty.length() + 1, 3));
+                due("60 of each rule", Feeding.rule(x, sixty), n);
+            }
             // What is no value and no fact of a sign is not counted.
             ruleStands("go 1+1+1 if not [1=1]" + " and not [1=1]".repeat(18));
         });
@@ -434,6 +516,21 @@ public final class TermsBoundsTest {
             ruleFails("go 1 if [1=1] |]", 0);
             ruleFails("go |if 1=1", 0);
             ruleFails("go 1 if |if", 0);
+            for (char other = 0; other < 256; other++) {
+                if (other < ' ' || other > '~') {
+                    hillFails("|" + other, 0);
+                    hillFails("hill |" + other + " 2", 0);
+                    hillFails("hill 1 2|" + other, 0);
+                    hillFails("hill 1 2;|" + other + " 1", 0);
+                    ruleFails("|" + other + " 1", 0);
+                    ruleFails("go |" + other, 0);
+                    ruleFails("go 1|" + other, 0);
+                    ruleFails("go 1|" + other + "1", 0);
+                    ruleFails("go 1 if |" + other + "1=1", 0);
+                    ruleFails("go 1 if 1|" + other + "1", 0);
+                    ruleFails("go 1 if 1=1 |" + other + " 1=1", 0);
+                }
+            }
         });
         s.says("1 a NUMBER of more digits, or not as told (of follows the second SHEEP, if it is the first)", () -> {
             hillFails("hill |000001 1", 1);
@@ -712,6 +809,15 @@ public final class TermsBoundsTest {
             MaySheep x = Made.busy();
             ask(x);
             same("all is as before", Made.all(x), Made.all(Made.busy()));
+            x = Made.busy();
+            for (int n = 0; n < 3; n++) {
+                same("asked again", Arrays.toString(ask(x)), Arrays.toString(ask(Made.busy())));
+            }
+            x = Made.with("hill 1 9;man 9 0");
+            for (int n = 0; n < 2; n++) {
+                same("asked again, of none", x.shared(0) + " " + x.shared(1) + " " + x.men(0) + " " + x.men(1) + " "
+                    + x.won(0, 1, 0) + " " + x.settled(1) + " " + x.look(0, 0), "0 0 0 0 -2 1 -2");
+            }
             x = Made.with("hill 1 9;sheep 1;sheep 2;man 9 0;man 9 0;likes 0 0 9;likes 1 0 9", "go man");
             same("by the rule", x.ahead(0, 1, 0) + " " + x.won(1, 2, 0) + " " + x.taught(1, 0) + " " + x.ahead(1, 2, 1) + " "
                 + x.won(0, 1, 0) + " " + x.frights(1, 1, 0, 1), "1 0 2 6 -2 3");
@@ -761,6 +867,10 @@ public final class TermsBoundsTest {
             x = Made.with(eight, "go 1 if likes<99 and man=0 and sheep<2");
             due("by the rule", x.won(0, 2, 0), 0);
             due("by the rule", x.won(0, 3, 0), -2);
+            x = Made.with(eight, "go 1 if likes=99 and flock=1");
+            due("by flocks, none", x.won(0, 1, 0), -2);
+            x.lead(5, 0);
+            due("by flocks", x.won(0, 2, 1), 3);
         });
         s.says("LEAST for a MAN and so many SHEEP (1 to 8), without a RULE: the least that SHEEP, all together, must LIKE him"
             + " more now than they do (99 each at most), so that he has as many or more after a MAY: how much; the set of"
@@ -779,6 +889,14 @@ public final class TermsBoundsTest {
             due("up to 99", x.least(1, 7, 0), 1 + 4 + 4 + 99);
             due("not above 99", x.least(1, 8, 0), -2);
             due("not above 99", x.least(1, 8, 1), -2);
+            due("one more than nothing", x.least(0, 8, 0), 4);
+            due("of those that like nobody", x.least(0, 8, 1), 16 + 32 + 64 + 128);
+            due("a man alone", Made.with("hill 1 9;sheep 1;man 9 0").least(0, 1, 0), 1);
+            String four = "hill 1 9;sheep 1" + Made.FOUR + ";likes 0 0 7;likes 0 1 9;likes 0 2 8;likes 0 3 3";
+            int[] more = {2, 0, 2, 7};
+            for (int man = 0; man < 4; man++) {
+                due("of four", Made.with(four).least(man, 1, 0), more[man]);
+            }
             due("has them", x.least(0, 4, 0), 0);
             due("has them", x.least(0, 4, 1), 0);
             x = Made.with(eight + ";likes 0 1 99;likes 1 1 2;likes 2 1 1;likes 3 1 1;follows 4 0;follows 5 0;follows 6 0;follows 7 0");
@@ -835,7 +953,14 @@ public final class TermsBoundsTest {
             x = Made.with("hill 4 9;sheep 1;man 1 7;man 1 3", "go 1 if man=0 and salt=5");
             due("by n Mays", x.rests(0, 1, 20, 1), 0);
         });
-        s.says("the first (by the first one, then the second one)", () -> {
+        s.says("how many; the first (by the first one, then the second one)", () -> {
+            String[] rules = {"go salt", "go salt if sheep=man;go salt/2", "go likes", "go likes+salt-flock", "go salt%10+1",
+                "go 20-salt", "go salt+mine*6", "go salt*2+likes if flock<2;go salt"};
+            for (String rule : rules) {
+                for (String land : new String[] {"hill 3 9;sheep 5", "hill 2 2;sheep 4;sheep 3;sheep 5"}) {
+                    restsAreAsTold(land, rule);
+                }
+            }
             String hill = "hill 5 9;sheep 1;sheep 1;man 1 7;man 1 3";
             MaySheep x = Made.with(hill, "go 1 if sheep=man and salt=5");
             same("both, either or none", x.rests(0, 1, 1, 0) + " " + x.rests(0, 1, 1, 1) + " " + x.rests(0, 1, 1, 2), "4 0 0");
@@ -856,7 +981,38 @@ public final class TermsBoundsTest {
             due("100", x.stranger(100, 0), NONE);
             x = Made.with("hill 1 1;sheep 1;man 1 1");
             due("0 is not as much as 1", x.stranger(1, 0), 1);
+            x = Made.with("hill 1 1;sheep 1" + Made.FOUR + ";likes 0 3 50");
+            due("less than the fourth", x.stranger(50, 0), 0);
+            due("more than the fourth", x.stranger(51, 0), 1);
         });
+    }
+
+    /** Rests are those of hills that were told with such salt. */
+    private void restsAreAsTold(String land, String rule) {
+        String hill = land + ";man 1 #;man 2 @;likes 0 0 6;likes 0 1 5";
+        for (int n : new int[] {1, 2, 3, 20}) {
+            int[][][] has = new int[2][5][5];
+            for (int two = 0; two < 25; two++) {
+                int a = two / 5;
+                int b = two % 5;
+                MaySheep x = Made.with(hill.replace("#", "" + 5 * a).replace("@", "" + 5 * b), rule);
+                has[0][a][b] = x.ahead(0, n, 1) - n * 5 * a;
+                has[1][a][b] = x.ahead(1, n, 1) - n * 5 * b;
+            }
+            int many = 0;
+            String first = "-2 -2";
+            for (int two = 0; two < 25; two++) {
+                boolean rests = true;
+                for (int c = 0; c < 5; c++) {
+                    rests &= has[0][c][two % 5] <= has[0][two / 5][two % 5] && has[1][two / 5][c] <= has[1][two / 5][two % 5];
+                }
+                first = rests && many == 0 ? 5 * (two / 5) + " " + 5 * (two % 5) : first;
+                many += rests ? 1 : 0;
+            }
+            MaySheep x = Made.with(hill.replace("#", "11").replace("@", "12"), rule);
+            same(land + ", " + rule + ", " + n, x.rests(0, 1, n, 0) + " " + x.rests(0, 1, n, 1) + " " + x.rests(0, 1, n, 2),
+                many + " " + first);
+        }
     }
 
     private static String settled(MaySheep x) {
@@ -887,9 +1043,10 @@ public final class TermsBoundsTest {
             String[] hills = {"hill 1 1;sheep 7", "hill 1 1;sheep 7;sheep 2", "hill 1 1;sheep 7;sheep 2;follows 0 1",
                 "hill 1 1" + EIGHT, "hill 1 1;sheep 1;sheep 1;sheep 1;sheep 1;follows 1 3",
                 "hill 1 1" + ";sheep 9".repeat(8) + ";follows 0 1;follows 1 2;follows 2 3;follows 3 4;follows 4 5;"
-                + "follows 5 6;follows 6 7", "hill 1 1;sheep 1;sheep 9;sheep 9;sheep 1", "hill 1 1"};
-            int[] much = {7, 5, 9, 0, 0, 72, 0, 0};
-            int[] part = {1, 1, 3, 15, 5, 255, 3, 0};
+                + "follows 5 6;follows 6 7", "hill 1 1;sheep 1;sheep 9;sheep 9;sheep 1", "hill 1 1;sheep 1;sheep 2;sheep 1",
+                "hill 1 1;sheep 1;sheep 5;sheep 1;sheep 1", "hill 1 1"};
+            int[] much = {7, 5, 9, 0, 0, 72, 0, 0, 2, 0};
+            int[] part = {1, 1, 3, 15, 5, 255, 3, 5, 13, 0};
             for (int i = 0; i < hills.length; i++) {
                 due(hills[i], Made.with(hills[i]).shared(0), much[i]);
                 due(hills[i], Made.with(hills[i]).shared(1), part[i]);
@@ -914,6 +1071,7 @@ public final class TermsBoundsTest {
             same("not whom it does", taught(Made.with("hill 1 9;sheep 1;sheep 1;man 9 0;likes 0 0 1;follows 1 0"), 0), "2 -1 -1");
             same("to follow nobody is not taught", taught(Made.with("hill 1 9;sheep 1;sheep 1;man 9 0;likes 0 0 1;follows 0 1"), 0),
                 "2 1 0");
+            same("nor to follow itself", taught(Made.with(hill + ";likes 1 0 5;follows 1 0"), 0), "0 -1 -1");
             same("one sheep", taught(Made.with("hill 1 9;sheep 1;man 9 0"), 0), "0 -1 -1");
             same("no sheep", taught(Made.with("hill 1 9;man 9 0"), 0), "0 -1 -1");
         });
@@ -998,6 +1156,10 @@ public final class TermsBoundsTest {
             same("those that are so", x.look(0, 0) + " " + x.look(0, 1), "0 2");
             x.note(40, 1, 0);
             same("one that is so", x.look(0, 0) + " " + x.look(0, 1), "0 1");
+            x = Made.with(hill, "go man", "go man", "go man", "go man", "go man", "go man");
+            same("six by the last man", x.look(40, 0) + " " + x.look(40, 1), "0 6");
+            x = Made.with(hill, "go 0", "go 0", "go 0", "go 0", "go 0", "go 0");
+            same("all seven alike", x.look(40, 0) + " " + x.look(40, 1), "0 7");
             due("-1", x.look(-1, 0), NONE);
             due("41", x.look(41, 0), NONE);
         });
@@ -1107,6 +1269,36 @@ public final class TermsBoundsTest {
             due("no -1", x.back(-1), NONE);
             due("the tape is what it was", x.rule(), 3);
             due("an image stays", x.back(3), 4);
+            x = Made.with("hill 1 1;sheep 1;sheep 1;man 1 1;man 1 1;likes 0 0 1", "go 1", "go man");
+            x.note(2, 1, 1);
+            x.image(0);
+            x.note(NONE, 0, 0);
+            x.note(0, 1, NONE);
+            same("other notes", x.ruled(0) + " " + x.ruled(1), "1 -1");
+            x.image(1);
+            x.back(0);
+            same("its notes", x.ruled(0) + " " + x.ruled(1), "1 1");
+            x.back(1);
+            same("and those", x.ruled(0) + " " + x.ruled(1), "1 -1");
+            x.note(NONE, 0, 0);
+            x.note(3, 0, 1);
+            x.back(0);
+            same("its notes again", x.ruled(0) + " " + x.ruled(1), "1 1");
+            // By the rule sheep 0 is man 0's behind May 0 alone.
+            int[][] untrue = {{1, 0, 0}, {0, 1, 0}, {0, 0, 1}};
+            for (int[] note : untrue) {
+                x = Made.with("hill 1 1;sheep 1;sheep 1;man 1 1;man 1 1", "go 1 if sheep=0 and man=0 and year=0");
+                x.note(0, 0, 0);
+                x.image(2);
+                x.note(NONE, 0, 0);
+                x.note(note[0], note[1], note[2]);
+                due("not so", x.ruled(0), 0);
+                x.image(3);
+                x.back(2);
+                due("so", x.ruled(0), 1);
+                x.back(3);
+                due("not so", x.ruled(0), 0);
+            }
         });
         s.says("The constants: `NONE = -1`: None.", () -> due("NONE", MaySheep.NONE, -1));
     }
